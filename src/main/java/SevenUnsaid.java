@@ -56,7 +56,7 @@ public final class SevenUnsaid {
     private final History history = new History();
     private final Thought thought = new Thought();
     private final Seating seats = new Seating();
-    private final Compiler compiler = new Compiler();
+    private final LawMaker lawMaker = new LawMaker();
     private int faultKind;
     private int faultPlace = NONE;
 
@@ -104,7 +104,7 @@ public final class SevenUnsaid {
     }
 
     public int feed(int a, int b, int c, int d, int e) {
-        Tape tape = compiler.tape;
+        Tape tape = lawMaker.tape;
         if (tape.size + FEED_LENGTH > TAPE_LENGTH) {
             return NONE;
         }
@@ -117,17 +117,17 @@ public final class SevenUnsaid {
     }
 
     public boolean end(int n) {
-        return compiler.tape.cut(n);
+        return lawMaker.tape.cut(n);
     }
 
     public int text() {
-        faultKind = compiler.compile();
-        faultPlace = faultKind == 0 ? NONE : compiler.tape.start;
-        compiler.tape.cut(0);
+        faultKind = lawMaker.compile();
+        faultPlace = faultKind == 0 ? NONE : lawMaker.tape.start;
+        lawMaker.tape.cut(0);
         if (faultKind != 0) {
             return NONE;
         }
-        now.law.copy(compiler.law);
+        now.law.copy(lawMaker.law);
         return now.law.lines;
     }
 
@@ -1298,7 +1298,7 @@ public final class SevenUnsaid {
     }
 
     /** Makes a law of a tape, token by token; what is not joined yet waits on a stack. */
-    private static final class Compiler {
+    private static final class LawMaker {
         private static final int FAULT_TOKEN = 1;
         private static final int FAULT_ZERO = 2;
         private static final int FAULT_MANY = 3;

@@ -9,7 +9,7 @@ public final class ModelTest {
     private static int wrong;
 
     public static void main(String[] args) {
-        int runs = args.length > 0 ? Integer.parseInt(args[0]) : 150;
+        int runs = args.length > 0 ? Integer.parseInt(args[0]) : 80;
         long first = args.length > 1 ? Long.parseLong(args[1]) : 1;
         for (long seed = first; seed < first + runs && wrong == 0; seed++) {
             new Run(seed).go();
