@@ -1,10 +1,5 @@
 /** Each promise of the document by its number: ordinary inputs, the edges that it names, wrong inputs. */
-public final class PromiseTest {
-    private static final int NONE = -1;
-    private static final int LOW = Integer.MIN_VALUE;
-    private static final int HIGH = Integer.MAX_VALUE;
-    private static int wrong;
-
+public final class PromiseTest extends TestKit {
     public static void main(String[] args) {
         newObject();
         state();
@@ -49,63 +44,7 @@ public final class PromiseTest {
         imageOfAnother();
         imageOfTheBook();
         look();
-        System.out.println(wrong == 0 ? "all promises are kept" : wrong + " answers are not as due");
-        if (wrong != 0) {
-            System.exit(1);
-        }
-    }
-
-    private static void due(String what, int got, int want) {
-        if (got != want) {
-            wrong++;
-            System.out.println(what + " answered " + got + ", due is " + want);
-        }
-    }
-
-    private static void due(String what, boolean got, boolean want) {
-        due(what, got ? 1 : 0, want ? 1 : 0);
-    }
-
-    private static SevenUnsaid people(int... weak) {
-        SevenUnsaid x = new SevenUnsaid();
-        for (int w : weak) {
-            x.person(w);
-        }
-        return x;
-    }
-
-    /** Feeds a text and makes it the law. */
-    private static int law(SevenUnsaid x, String text) {
-        for (int sent = 0; sent < text.length(); sent += 20) {
-            int[] five = new int[5];
-            for (int k = 0; k < 20; k++) {
-                int sign = sent + k < text.length() ? text.charAt(sent + k) : ' ';
-                five[k / 4] = five[k / 4] << 8 | sign;
-            }
-            x.feed(five[0], five[1], five[2], five[3], five[4]);
-        }
-        x.end(text.length());
-        return x.text();
-    }
-
-    /** The odds of NEXT for one of weak 30, 4 glasses, in a law. */
-    private static int odds(String text) {
-        SevenUnsaid x = people(30);
-        x.set(3, 0, 4);
-        x.set(4, 0, 17);
-        x.set(0, 0, 9);
-        due("law '" + text + "'", law(x, text) > 0, true);
-        return x.of(0, 3);
-    }
-
-    private static void fault(String text, int kind, int place) {
-        SevenUnsaid x = people(30);
-        law(x, "err 7;");
-        due("text '" + text + "'", law(x, text), NONE);
-        due("fault(0) of '" + text + "'", x.fault(0), kind);
-        due("fault(1) of '" + text + "'", x.fault(1), place);
-        due("the law behind '" + text + "'", x.of(0, 3), 7);
-        due("its lines behind '" + text + "'", x.look(11), 1);
+        finish("all promises are kept");
     }
 
     private static void newObject() {
