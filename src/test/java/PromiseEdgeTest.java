@@ -743,6 +743,13 @@ public final class PromiseEdgeTest extends TestKit {
             w.rule(0, f, 0);
         }
         due("the last one has none", w.sit(7), 6);
+        SevenUnsaid e = table(8, "");
+        int[] figures = {1, 2, 4, 5, 7};
+        for (int f : figures) {
+            e.rule(0, f, 0);
+        }
+        e.rule(1, 3, 0);
+        due("the eighth has none", e.sit(8), 7);
     }
 
     /** "From .. to (1 .. 9999)", "NONE if one can't be, or another what". */
@@ -1264,21 +1271,32 @@ public final class PromiseEdgeTest extends TestKit {
         x.text();
         x.image(true);
         String then = looks(x);
+        String line = line99(x);
         x.undo();
         x.undo();
         x.set(1, 5, 0);
         x.set(2, 7, 50);
+        x.set(3, 7, 600);
         x.change(0, 7);
+        x.set(5, 0, 3);
+        law(x, "err 1000 when number = 2;");
+        x.play(5);
+        due("another line 99", line99(x).equals(line), false);
         law(x, "");
-        x.play(50);
         x.image(false);
         due("as it was, but for what can be undone", looks(x), then.substring(0, then.length() - 2) + "0");
         due("rule 5", x.told(5, 3), 1);
         due("weak of 7", x.of(7, 0), 8);
+        due("glasses of 7", x.of(7, 1), 0);
         due("seat of 7", x.of(7, 2), 7);
-        due("the last line", x.book(99, 3), 100);
+        due("who is there", x.set(5, 0, 7) ? x.whose(x.look(2)) : NONE, 7);
+        due("the last line", line99(x), line);
         due("a ninth", x.person(0), NONE);
         due("a seventh", x.rule(0, 9, 0), NONE);
+    }
+
+    private static String line99(SevenUnsaid x) {
+        return x.book(99, 0) + " " + x.book(99, 1) + " " + x.book(99, 2) + " " + x.book(99, 3);
     }
 
     private static String looks(SevenUnsaid x) {
@@ -1332,6 +1350,31 @@ public final class PromiseEdgeTest extends TestKit {
         }
         due("gone back at once", x.image(false), true);
         due("as it was still", looks(x), then);
+    }
+
+    /** The image holds how the sixth rule turns or skips. */
+    private static void p27TheLastRuleIsOfIt() {
+        for (int turn = 0; turn <= 2; turn++) {
+            SevenUnsaid x = people(0, 0, 0, 0);
+            for (int k = 0; k < 5; k++) {
+                x.rule(1, 99, 0);
+            }
+            x.image(true);
+            x.rule(0, 1, turn);
+            x.image(true);
+            x.image(false);
+            due("turn", x.told(5, 2), turn);
+            x.play(1);
+            int[] at = {1, 3, 2};
+            due("at by turn " + turn, x.look(3), at[turn]);
+        }
+        SevenUnsaid x = people(0, 0, 0, 0);
+        x.image(true);
+        x.rule(0, 1, 1);
+        x.image(false);
+        x.rule(0, 1, 2);
+        due("one that turned is gone", x.play(1) + x.look(3), 2);
+        due("and told no more", x.told(0, 2), 2);
     }
 
     /** The image holds who was ahead, NONE at first. */

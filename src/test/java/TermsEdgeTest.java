@@ -357,6 +357,22 @@ public final class TermsEdgeTest extends TestKit {
         due("digits end a word", odds("err7when8=8and9=9;"), 7);
     }
 
+    /** The same: from a to z and from A to Z, no sign beside them. */
+    private static void t2LettersFromAToZ() {
+        String letters = "azAZ";
+        for (int k = 0; k < letters.length(); k++) {
+            fault("err" + letters.charAt(k) + " 5;", 1, 0);
+            fault("err 5 when 1=1 or" + letters.charAt(k) + " 1=1;", 1, 15);
+        }
+        String beside = "@[`{" + (char) 0 + (char) 127 + (char) 128 + (char) 225 + (char) 255;
+        for (int k = 0; k < beside.length(); k++) {
+            fault("err" + beside.charAt(k) + " 5;", 1, 3);
+            fault("err 5 when 1=1 or" + beside.charAt(k) + " 1=1;", 1, 17);
+        }
+        fault("err 5:;", 1, 5);
+        fault("err 5,;", 1, 5);
+    }
+
     /** "digits as many as stand together NUMBERS of 1 to 4 digits or none". */
     private static void t2NumbersOfOneToFourDigits() {
         due("one", odds("err 7;"), 7);
@@ -573,6 +589,36 @@ public final class TermsEdgeTest extends TestKit {
         due("held, not passed over", odds("err 0-5 when 1=1; err 7;"), 0);
     }
 
+    /** "C = E (< | = | >) E": of two that are alike, or one apart. */
+    private static void t2OneLessAlikeOneMore() {
+        String[] signs = {"<", "=", ">"};
+        for (int k = 0; k < 3; k++) {
+            for (int left = 16; left <= 18; left++) {
+                due(left + signs[k] + "17", odds("err 5 when " + left + signs[k] + "number;"), left == 16 + k ? 5 : 0);
+            }
+        }
+        due("the lowest int is less", odds("err 5 when 256*256*256*128 < 256*256*256*128 - 1;"), 5);
+        due("the highest int is more", odds("err 5 when 256*256*256*128 - 1 > 256*256*256*128;"), 5);
+    }
+
+    /** "pace", "weak", "glasses": the least and the greatest. */
+    private static void t2TheLeastAndTheGreatestFacts() {
+        SevenUnsaid x = people(0);
+        law(x, "err pace + weak + glasses - 9000;");
+        due("the least", x.of(0, 3), 0);
+        x.set(0, 0, 99);
+        x.set(2, 0, 99);
+        x.set(3, 0, 9000);
+        due("pace and weak", x.of(0, 3), 198);
+        x.set(0, 0, 0);
+        x.set(2, 0, 0);
+        x.set(3, 0, 9999);
+        due("glasses", x.of(0, 3), 999);
+        law(x, "err number - 9000;");
+        x.set(4, 0, 9999);
+        due("number", x.of(0, 3), 999);
+    }
+
     /** "words: how many RULES it HAS": none to six. */
     private static void t2WordsFromNoughtToSix() {
         SevenUnsaid x = people(0);
@@ -601,6 +647,26 @@ public final class TermsEdgeTest extends TestKit {
         due("1 alone", x.of(0, 3), 1);
         x.set(4, 0, 4);
         due("1 to 4", x.of(0, 3), 4);
+    }
+
+    /** The same in thought: from NEXT on, and from the start, where nothing is ahead of 1. */
+    private static void t2RunsInThought() {
+        SevenUnsaid x = people(0, 0);
+        x.rule(1, 2, 0);
+        x.rule(1, 3, 0);
+        law(x, "err run*100;");
+        // 2, 3, 4 are words one behind another, 5 is plain, 6 is one alone.
+        due("to 4", x.get(4), 504000);
+        due("to 6", x.get(6), 453600);
+        due("the hardest", x.hardest(6), 4);
+        due("seating", x.seating(6, 0), 453600);
+        x.set(4, 0, 4);
+        due("4 alone", x.get(4), 700000);
+        due("seating is from the start", x.seating(4, 0), 504000);
+        x.rule(0, 1, 0);
+        due("4, as 1 is a word", x.get(4), 600000);
+        due("1 to 4 from the start", x.seating(4, 0), 302400);
+        due("4 and 5", x.third(0, 5, 0, 5), 300000);
     }
 
     /** The same, of a number that comes behind 9999: what is below 1 is none, whatever was said. */
@@ -672,6 +738,24 @@ public final class TermsEdgeTest extends TestKit {
         due("undone, 9999 it was", x.of(0, 1), 9999);
         x.undo();
         due("undone, 9998 it was", x.of(0, 1), 9998);
+    }
+
+    /** "GLASSES of all then, added": of one alone, of eight, 9999 each. */
+    private static void t2GlassesOfAll() {
+        for (int n = 1; n <= 8; n++) {
+            SevenUnsaid x = table(n);
+            law(x, "err 1000;");
+            for (int k = 0; k < n; k++) {
+                x.set(3, k, 1000 + k);
+            }
+            x.play(1);
+            due("of " + n, x.book(0, 3), n * 1000 + n * (n - 1) / 2 + 1);
+            for (int k = 0; k < n; k++) {
+                x.set(3, k, 9999);
+            }
+            x.play(1);
+            due("the most of " + n, x.book(1, 3), n * 9999);
+        }
     }
 
     /** "THE BOOK (100 lines; no more then)". */
