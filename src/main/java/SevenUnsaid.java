@@ -801,7 +801,7 @@ public final class SevenUnsaid {
         }
 
         boolean goBack(Round round) {
-            if (size == 0) {
+            if (size == 0 || top < 0 || top >= MOST_UNDONE) {
                 return false;
             }
             round.count.copy(counts[top]);
